@@ -749,8 +749,9 @@ public final class TypeRoom {
             return true;
         }
 
+        /** An a of -1: no LETTER stands ahead of b. */
         int kernOf(int a, int b) {
-            int[] row = kerns[a];
+            int[] row = a < 0 ? null : kerns[a];
             return row == null || b >= row.length ? 0 : row[b];
         }
 
@@ -841,30 +842,24 @@ public final class TypeRoom {
         }
 
         int wide(Trace trace) {
-            switch (kind) {
-                case SPACE:
-                case RULE:
-                    trace.begin(3);
-                    return base(trace) + added;
-                case ORNAMENT:
-                    trace.begin(4);
-                    return fount.ornaments[code];
-                case STACK:
-                    return stackWide(trace);
-                default:
-                    return letterWide(trace);
+            if (first != null && second != null) {
+                trace.begin(5);
+                return Math.max(first.letterWide(trace), second.letterWide(trace));
             }
+            if (isGap()) {
+                trace.begin(3);
+                return base(trace) + added;
+            }
+            if (kind == ORNAMENT) {
+                trace.begin(4);
+                return fount.ornaments[code];
+            }
+            return letterWide(trace);
         }
 
         private int letterWide(Trace trace) {
             trace.begin(kind == JOINED ? 2 : 1);
             return kind == JOINED ? fount.joinWidths[code] : fount.widths[code];
-        }
-
-        private int stackWide(Trace trace) {
-            trace.begin(5);
-            return first == null || second == null ? 0
-                    : Math.max(first.letterWide(trace), second.letterWide(trace));
         }
 
         private int base(Trace trace) {
@@ -886,12 +881,11 @@ public final class TypeRoom {
         }
 
         int ink(Trace trace) {
-            switch (kind) {
-                case LETTER:
-                case JOINED: return letterInk(trace);
-                case STACK: return stackInk(trace);
-                default: return lentInk(trace);
+            if (first != null && second != null) {
+                trace.begin(23);
+                return 5 * first.letterInk(trace) + second.letterInk(trace);
             }
+            return isLetter() ? letterInk(trace) : lentInk(trace);
         }
 
         private int lentInk(Trace trace) {
@@ -910,12 +904,6 @@ public final class TypeRoom {
         private int plainLetterInk(Trace trace) {
             trace.begin(21);
             return 3 * codeTold() + 7;
-        }
-
-        private int stackInk(Trace trace) {
-            trace.begin(23);
-            return first == null || second == null ? 0
-                    : 5 * first.letterInk(trace) + second.letterInk(trace);
         }
     }
 
@@ -952,7 +940,7 @@ public final class TypeRoom {
         }
 
         boolean makesWidow() {
-            return together > 1 && isLast();
+            return together > 1 && order == together - 1;
         }
 
         boolean makesOrphan() {
@@ -1477,7 +1465,7 @@ public final class TypeRoom {
         }
 
         private void addLetters(int begin, int end, int wide) {
-            width += kernBefore(begin) + wide;
+            width += fount.kernOf(ending, begin) + wide;
             ending = end;
             sorts++;
         }
@@ -1488,13 +1476,9 @@ public final class TypeRoom {
             sorts++;
         }
 
-        private int kernBefore(int letter) {
-            return ending < 0 ? 0 : fount.kernOf(ending, letter);
-        }
-
         /** A HYPHEN is read only if there is a LETTER 0. */
         private int widthOfHyphen() {
-            return kernBefore(0) + fount.widths[0];
+            return fount.kernOf(ending, 0) + fount.widths[0];
         }
 
         private int shares() {
