@@ -10,6 +10,7 @@ final class FountTest {
         spacing();
         buy();
         left();
+        eachBoxForItself();
         stateWhileOut();
         stateComesAheadOfFaults();
         roomsHaveTheirOwn();
@@ -219,6 +220,31 @@ final class FountTest {
         x.text(0, -2);
         x.left(0, 0, 0);
         Due.is("status() is not changed by left()", x.status(), Bench.SIZE);
+    }
+
+    /** No two BOXES are one, also in the greatest FOUNTS. */
+    private static void eachBoxForItself() {
+        TypeRoom x = new TypeRoom();
+        int[] kinds = {24, 6, 1, 1, 4};
+        for (int f = 0; f < 4; f++) {
+            x.fount(f, 24);
+            for (int j = 0; j < 6; j++) {
+                x.join(f, j, 23, -1, 1);
+            }
+            for (int kind = 0; kind < 5; kind++) {
+                for (int code = 0; code < kinds[kind]; code++) {
+                    x.buy(f, kind, code, 10 * kind % 7 + code % 11 + f);
+                }
+            }
+        }
+        for (int f = 0; f < 4; f++) {
+            for (int kind = 0; kind < 5; kind++) {
+                for (int code = 0; code < kinds[kind]; code++) {
+                    Due.is("left(" + f + ", " + kind + ", " + code + ")", x.left(f, kind, code),
+                            10 * kind % 7 + code % 11 + f);
+                }
+            }
+        }
     }
 
     private static void stateWhileOut() {

@@ -14,6 +14,7 @@ final class PageTest {
         lastPageIsFree();
         manyLines();
         manyLinesAndBeyond();
+        fortyLinesAndOneMore();
         Due.end();
     }
 
@@ -231,6 +232,22 @@ final class PageTest {
         x.drop(41);
         counts(x, 41, 40, 1);
         Due.is("page(1, 3): an orphan at the end", x.page(1, 3), 2);
+    }
+
+    /** Three LINES together and single ones: page by page the first page would leave a WIDOW, and has one less. */
+    private static void fortyLinesAndOneMore() {
+        TypeRoom x = withLines(3);
+        for (int i = 3; i < 40; i++) {
+            addLines(x, 1);
+        }
+        Due.is("makeup(2) of 40 lines", x.makeup(2), 20);
+        Due.is("page(0, 1)", x.page(0, 1), 2);
+        Due.is("page(1, 3)", x.page(1, 3), 1);
+        addLines(x, 1);
+        Due.is("makeup(2) of 41 lines", x.makeup(2), 21);
+        Due.is("page(0, 1)", x.page(0, 1), 1);
+        Due.is("page(0, 3)", x.page(0, 3), 2);
+        Due.is("page(1, 3)", x.page(1, 3), 0);
     }
 
     private static int[] ones(int n) {

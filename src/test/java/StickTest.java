@@ -11,22 +11,24 @@ final class StickTest {
         traceStaysWhenRefused();
         added();
         tray();
+        undoInTheTray();
         trayTypes();
         lay();
         pick();
         Due.end();
     }
 
-    /** LETTER 0 at 0, JOINED 0 (LETTERS 1, 0) at 1, SPACE at 2, RULE at 3, ORNAMENT 2 at 4; the rest are holes. */
+    /** LETTER 0 at 0, JOINED 1 (LETTERS 1, 0) at 1, SPACE at 2, RULE at 3, ORNAMENT 2 at 4; the rest are holes. */
     private static TypeRoom filled() {
         TypeRoom x = Bench.stocked(3);
         x.width(0, 0, 4);
+        x.join(0, 2, 2, -1, 1);
         x.join(0, 1, 0, -1, 7);
-        x.buy(0, 1, 0, 5);
+        x.buy(0, 1, 1, 5);
         x.ornament(0, 2, 6);
         x.spacing(0, 5, 2, 1, 1);
         x.take(0, 0, 0, 0);
-        x.take(1, 0, 1, 0);
+        x.take(1, 0, 1, 1);
         x.take(2, 0, 2, 0);
         x.take(3, 0, 3, 0);
         x.take(4, 0, 4, 2);
@@ -69,7 +71,7 @@ final class StickTest {
         x.stack(0, 1);
         Due.is("putBack(0) of a stack", x.putBack(0), 2);
         Due.is("left(0, 0, 0)", x.left(0, 0, 0), 60);
-        Due.is("left(0, 1, 0)", x.left(0, 1, 0), 5);
+        Due.is("left(0, 1, 1)", x.left(0, 1, 1), 5);
         Due.is("putBack(0)", x.putBack(0), Bench.NULL);
         Due.is("putBack(2)", x.putBack(2), 1);
         Due.is("left(0, 2, 0)", x.left(0, 2, 0), 60);
@@ -139,7 +141,7 @@ final class StickTest {
         int cast = Bench.CAST;
         int[][] answers = {
             {4, cast, 7, cast, 0, 0, 0},
-            {7, cast, 3 + 7 + 100, 0, 1, 0, 1},
+            {7, cast, 3 + 7 + 100 + 1, 1, 1, 0, 1},
             {5, 1, cast, cast, 2, 0, 0},
             {0, 3, 9, cast, 3, 0, 0},
             {6, cast, 15, cast, 4, 0, 2},
@@ -258,6 +260,7 @@ final class StickTest {
         Due.is("tray(0, MIN)", x.tray(0, Bench.MIN), Bench.SIZE);
         Due.is("tray(0, 0)", x.tray(0, 0), 1);
         Due.is("lay(0, 0) in a tray of none", x.lay(0, 0), Bench.INDEX);
+        Due.is("pick(0, 9) of a tray of none", x.pick(0, 9), Bench.INDEX);
         Due.is("tray(0, 8)", x.tray(0, 8), 1);
         Due.is("lay(0, 7)", x.lay(0, 7), 1);
         Due.is("tray(0, -1), a sort lies there", x.tray(0, -1), Bench.STATE);
@@ -267,6 +270,23 @@ final class StickTest {
         Due.is("lay(0, 7)", x.lay(0, 7), Bench.INDEX);
         Due.is("undo()", x.undo(), 1);
         Due.is("lay(0, 7), the former tray", x.lay(0, 7), 1);
+    }
+
+    private static void undoInTheTray() {
+        TypeRoom x = filled();
+        x.tray(1, 2);
+        x.tray(2, 2);
+        x.undo();
+        Due.is("lay(0, 0), the former type", x.lay(0, 0), 1);
+        Due.is("tray(0, 1), a sort lies at place 0", x.tray(0, 1), Bench.STATE);
+        x.lay(1, 1);
+        x.undo();
+        Due.is("tray(0, 1), it lies there still", x.tray(0, 1), Bench.STATE);
+        x.pick(0, 8);
+        Due.is("undo()", x.undo(), 1);
+        Due.is("ask(8, 4)", x.ask(8, 4), Bench.NULL);
+        Due.is("pick(0, 7)", x.pick(0, 7), 1);
+        Due.is("ask(7, 4)", x.ask(7, 4), 0);
     }
 
     private static void trayTypes() {
