@@ -1,21 +1,27 @@
 /** Counts and prints the answers that are not the ones that are due. */
 final class Due {
     private static int wrong = 0;
+    private static String words = "";
 
     private Due() {
+    }
+
+    /** The words of the document by which the next answers are due. */
+    static void by(String sentence) {
+        words = " (" + sentence + ")";
     }
 
     static void is(String call, long got, long want) {
         if (got != want) {
             wrong++;
-            System.out.println(call + " answered " + got + ", due is " + want);
+            System.out.println(call + " answered " + got + ", due is " + want + words);
         }
     }
 
     static void isTrue(String what, boolean holds) {
         if (!holds) {
             wrong++;
-            System.out.println("does not hold: " + what);
+            System.out.println("does not hold: " + what + words);
         }
     }
 

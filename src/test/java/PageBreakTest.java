@@ -4,7 +4,7 @@ import java.util.Random;
 
 /** Promise 26 against a plain model: every choice of pages, or page by page if there are many LINES. */
 final class PageBreakTest {
-    private static final int RUNS = 400;
+    private static final int RUNS = 600;
 
     private record OneLine(int height, int order, int together, List<Integer> calls) {
         boolean isLastOfMore() {
@@ -31,7 +31,7 @@ final class PageBreakTest {
             PageBreakTest test = new PageBreakTest(run);
             boolean isMany = run % 3 == 0;
             test.setLines(isMany ? 41 : 12, isMany ? 49 : 14);
-            for (int i = 0; i < 6 && !Due.hasWrong(); i++) {
+            for (int i = 0; i < (isMany ? 1 : 6) && !Due.hasWrong(); i++) {
                 test.compare("seed " + run, isMany);
             }
         }
@@ -86,7 +86,7 @@ final class PageBreakTest {
     }
 
     private void compare(String name, boolean isMany) {
-        int h = 1 + random.nextInt(isMany ? 30 : 16);
+        int h = isMany ? 3 + random.nextInt(28) : 1 + random.nextInt(16);
         List<Integer> due = isMany ? filled(h) : best(h);
         String run = name + ", makeup(" + h + ")";
         Due.is(run, x.makeup(h), due.size());

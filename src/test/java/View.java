@@ -27,9 +27,17 @@ final class View {
 
     private static void boxes(TypeRoom x, StringBuilder text) {
         for (int f = 0; f < 4; f++) {
+            if (x.left(f, 2, 0) == Bench.NONE) {
+                continue;
+            }
             for (int kind = 0; kind < 5; kind++) {
+                boolean isOneBox = kind == 2 || kind == 3;
                 for (int code = 0; code < 24; code++) {
-                    text.append(x.left(f, kind, code)).append(',');
+                    int left = x.left(f, kind, code);
+                    text.append(left).append(',');
+                    if (isOneBox || left == Bench.NONE) {
+                        break;
+                    }
                 }
             }
         }
