@@ -355,11 +355,21 @@ final class ActEdgeTest {
         r.is(1, "tray", 1, 2);
         r.is(1, "tray", 2, 1);
         r.is(1, "undo");
+        r.does("take", 1, 0, 2, 0);
         r.does("take", 0, 0, 0, 0);
+        r.store("lay", 1, 1);
         r.is(1, "lay", 0, 1);
         r.is(1, "undo");
         r.is(1, "tray", 0, 1);
         r.is(0, "ask", 0, 4);
+        r.does("lay", 1, 0);
+        r.does("take", 2, 0, 3, 0);
+        r.is(1, "undo");
+        r.state("lay", 0, 0);
+        r.is(1, "pick", 0, 9);
+        r.is(2, "ask", 9, 4);
+        r.is(1, "undo");
+        r.state("tray", 0, 1);
     }
 
     private static void notKept() {

@@ -97,23 +97,30 @@ final class FountEdgeTest {
 
     private static void boxes() {
         Run r = new Run();
-        int[] kinds = {2, 1, 1, 1, 4};
-        r.does("fount", 0, 2);
-        r.does("join", 0, 0, 1, -1, 1);
-        for (int kind = 0; kind < 5; kind++) {
-            for (int code = 0; code < kinds[kind]; code++) {
-                r.is(0, "left", 0, kind, code);
-                r.is(10 * kind + code + 1, "buy", 0, kind, code, 10 * kind + code + 1);
+        int[] kinds = {24, 6, 1, 1, 4};
+        for (int f = 2; f < 4; f++) {
+            r.does("fount", f, 24);
+            for (int j = 0; j < 6; j++) {
+                r.does("join", f, 0, j, -1, 1);
+            }
+            for (int kind = 0; kind < 5; kind++) {
+                for (int code = 0; code < kinds[kind]; code++) {
+                    int n = 10 * kind + code + f;
+                    r.is(0, "left", f, kind, code);
+                    r.is(n, "buy", f, kind, code, n);
+                }
             }
         }
-        for (int kind = 0; kind < 5; kind++) {
-            for (int code = 0; code < kinds[kind]; code++) {
-                r.is(10 * kind + code + 1, "left", 0, kind, code);
+        for (int f = 2; f < 4; f++) {
+            for (int kind = 0; kind < 5; kind++) {
+                for (int code = 0; code < kinds[kind]; code++) {
+                    r.is(10 * kind + code + f, "left", f, kind, code);
+                }
             }
+            r.none("left", f, 0, 24);
+            r.none("left", f, 1, 6);
+            r.none("left", f, 4, 4);
         }
-        r.none("left", 0, 0, 2);
-        r.none("left", 0, 1, 1);
-        r.none("left", 0, 4, 4);
     }
 
     private static void stateWhileOut() {

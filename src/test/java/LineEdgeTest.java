@@ -267,6 +267,27 @@ final class LineEdgeTest {
         setsOnce(r, 9, signs(0, 32, 0, 32, 0, 32, 0), 5, 1);
         setsOnce(r, 5, signs(0, 32, 0, 32, 0, 32, 0, 32, 0), 3, 3, 1);
         setsOnce(r, 8, signs(0, 0, 0, 0, 32, 0, 0, 32, 0, 0, 0, 0, 32, 0, 0, 0, 0, 0, 0), 4, 7, 6);
+        leastByEachPart();
+    }
+
+    /** Choices that would be others if a part of BADNESS or WIDTH were left out. */
+    private static void leastByEachPart() {
+        Run r = Run.stocked(2, 100);
+        setsOnce(r, 2, signs(1, 45, 1), 2);
+        setsOnce(r, 3, signs(1, 45, 32, 1), 1, 1);
+        setsOnce(r, 4, signs(1, 32, 45, 1, 1), 3, 2);
+        setsOnce(r, 6, signs(1, 32, 32, 32, 1), 3, 1);
+        setsOnce(r, 8, signs(1, 32, 32, 32, 1), 3, 1);
+        r.does("width", 0, 0, 2);
+        setsOnce(r, 3, signs(1, 32, 45, 1), 1, 1);
+        setsOnce(r, 3, signs(1, 45, 32, 1), 2, 2);
+        r.does("width", 0, 0, 3);
+        setsOnce(r, 3, signs(1, 1, 45, 32, 1), 2, 1);
+        r.does("width", 0, 0, 1);
+        setsOnce(r, 3, signs(1, 1, 45, 32, 1), 3, 2);
+        r.does("kernRow", 0, 1, 1);
+        r.does("kern", 0, 1, 0, 2);
+        setsOnce(r, 3, signs(1, 1, 45, 32, 1), 2, 1);
     }
 
     private static void earlier() {
@@ -318,6 +339,13 @@ final class LineEdgeTest {
         sets(r, 1, signs(0, 32, 0), 1, 1);
         r.is(0, "line", 0, 6);
         r.is(0, "told", 1);
+        r.does("drop", 0);
+        r.does("width", 0, 0, 4);
+        sets(r, 14, signs(0, 32, 61, 0, 32, 0, 32, 61), 4, 3);
+        added(r, 0, 0, 1, 2, 0);
+        added(r, 1, 0, 0, 0);
+        r.is(7, "line", 1, 4);
+        r.is(0, "line", 1, 6);
     }
 
     /** Two LINES: the gaps, with a LETTER ahead of each and behind them, and as many LETTERS as units fit. */
@@ -554,6 +582,12 @@ final class LineEdgeTest {
         r.is(1, "set", 0, 0, 3);
         r.is(0, "left", 0, 0, 0);
         r.is(0, "left", 0, 0, 1);
+        r.does("fount", 3, 1);
+        r.does("buy", 3, 0, 0, 1);
+        r.write(0, 0, 0);
+        r.empty("set", 0, 3, 3);
+        r.write(0, 99);
+        r.empty("set", 0, 3, 3);
         Doc.says(22, "(They are JUSTIFIED when all SORTS are there.)");
         r = new Run();
         r.does("fount", 0, 1);
@@ -665,6 +699,10 @@ final class LineEdgeTest {
         for (int what : new int[] {-1, 3, MIN, MAX}) {
             r.bad("sortOf", 0, 0, what);
         }
+        r.does("drop", 0);
+        r.write(1, 1, 45, 1, 1);
+        r.is(2, "set", 1, 0, 2);
+        r.is(0, "sortOf", 0, 1, 2);
         r.does("text", 1, 0);
         r.does("set", 1, 0, 1);
         r.bad("sortOf", 2, 0, 0);

@@ -86,7 +86,7 @@ final class PageBreakTest {
     }
 
     private void compare(String name, boolean isMany) {
-        int h = isMany ? 3 + random.nextInt(28) : 1 + random.nextInt(16);
+        int h = isMany ? 5 + random.nextInt(26) : 1 + random.nextInt(16);
         List<Integer> due = isMany ? filled(h) : best(h);
         String run = name + ", makeup(" + h + ")";
         Due.is(run, x.makeup(h), due.size());

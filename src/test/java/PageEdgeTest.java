@@ -279,6 +279,18 @@ final class PageEdgeTest {
         r.does("drop", 41);
         pages(r, 60, 40, 1);
         told(r, 0, ORPHAN);
+        r = Run.stocked(1, 100);
+        addSingles(r, 18);
+        addLines(r, 3);
+        addSingles(r, 21);
+        pages(r, 10, 10, 9, 10, 10, 3);
+        told(r, 0, ORPHAN, 0, 0, 0);
+        r.does("drop", 18);
+        addSingles(r, 1);
+        addLines(r, 3);
+        addSingles(r, 20);
+        pages(r, 10, 10, 9, 10, 10, 3);
+        told(r, 0, 0, 0, 0, 0);
     }
 
     private static void makeup() {

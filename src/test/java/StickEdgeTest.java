@@ -377,6 +377,11 @@ final class StickEdgeTest {
         r.is(9, "left", 0, 0, 2);
         r.is(9, "left", 0, 0, 0);
         r.is(0, "told", 3);
+        r.does("fount", 3, 0);
+        r.does("buy", 3, 4, 3, 1);
+        r.does("take", 0, 3, 4, 3);
+        r.is(1, "putBack", 0);
+        r.is(1, "left", 3, 4, 3);
         Doc.says(15, "BAD;");
         for (int i : NO_PLACES) {
             r.bad("putBack", i);
@@ -385,7 +390,7 @@ final class StickEdgeTest {
         r.isNull("putBack", STACK);
         r.isNull("putBack", 9);
         r.does("undo");
-        r.is(5, "ask", STACK, 4);
+        r.is(4, "ask", 0, 4);
     }
 
     private static void stack() {
@@ -627,6 +632,8 @@ final class StickEdgeTest {
         for (int k : new int[] {-1, 2, MIN, MAX}) {
             r.index("pick", k, 8);
         }
+        r.does("tray", 0, 0);
+        r.index("pick", 0, 8);
         r = filled();
         r.isNull("pick", 0, 9);
         r.isNull("pick", -1, 9);
