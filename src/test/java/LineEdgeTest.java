@@ -66,6 +66,12 @@ final class LineEdgeTest {
         setsOnce(r, 0, signs(32, 32), 0, 1);
         setsOnce(r, 0, signs(1, 61, 1, 96, 1, 64, 94, 1, 1, 1), 7);
         setsOnce(r, 0, signs(32, 64), 0, 0);
+        for (int sign : new int[] {1, 61, 64, 96}) {
+            r.write(0, 1, sign, 1, 1, 1);
+            r.is(1, "set", 0, 0, 3);
+            r.does("drop", 0);
+        }
+        setsOnce(r, 2, signs(94, 1, 1, 1, 1), 3);
         Doc.terms("it ends behind its last SIGN (one of 0 SIGNS is one LINE; LINES may have no SORTS).");
         setsOnce(r, 0, signs(), 0);
         setsOnce(r, 300, signs(), 0);
@@ -341,8 +347,8 @@ final class LineEdgeTest {
         r.is(0, "told", 1);
         r.does("drop", 0);
         r.does("width", 0, 0, 4);
-        sets(r, 14, signs(0, 32, 61, 0, 32, 0, 32, 61), 4, 3);
-        added(r, 0, 0, 1, 2, 0);
+        sets(r, 15, signs(0, 32, 61, 0, 32, 0, 32, 61), 4, 3);
+        added(r, 0, 0, 1, 3, 0);
         added(r, 1, 0, 0, 0);
         r.is(7, "line", 1, 4);
         r.is(0, "line", 1, 6);

@@ -102,6 +102,10 @@ final class TextEdgeTest {
             r.is(p, "noteOf", 0, 0);
             r.does("drop", 0);
         }
+        r.write(0, 0, 45, 61, 96);
+        r.is(1, "set", 0, 0, 9);
+        r.is(1, "makeup", 60);
+        r.is(0, "page", 0, 4);
     }
 
     private static void stackFaults() {
