@@ -31,7 +31,7 @@ final class PageBreakTest {
             PageBreakTest test = new PageBreakTest(run);
             boolean isMany = run % 3 == 0;
             test.setLines(isMany ? 41 : 12, isMany ? 49 : 14);
-            for (int i = 0; i < (isMany ? 1 : 6) && !Due.hasWrong(); i++) {
+            for (int i = 0; i < (isMany ? 1 : 4) && !Due.hasWrong(); i++) {
                 test.compare("seed " + run, isMany);
             }
         }
