@@ -1334,6 +1334,8 @@ public final class TypeRoom {
     /** Breaks what was READ into LINES and justifies them. */
     private static final class Composer {
         private static final int RULE_SHARE = 3;
+        /** Above the BADNESS of as many LINES as a paragraph may have, were none of them to fit. */
+        private static final int WORST = 2000000000;
 
         final Line[] lines = new Line[SIGNS];
         int lineCount = 0;
@@ -1399,7 +1401,7 @@ public final class TypeRoom {
 
         /** Earlier ends are offered first, and a later one must be better. */
         private void chooseEndFrom(int from) {
-            best[from] = Integer.MAX_VALUE;
+            best[from] = WORST;
             ends[from] = reading.count;
             startMeasuring();
             for (int k = from; k < reading.count; k++) {
@@ -1606,6 +1608,8 @@ public final class TypeRoom {
     /** Breaks the LINES of a GALLEY into PAGES. */
     private static final class Pager {
         private static final int MOST_WEIGHED = 40;
+        /** Above the BADNESS of as many PAGES as are weighed, were each of them BEYOND. */
+        private static final long WORST = 1000000000000L;
 
         /** By the first LINE of a page: the least BADNESS from there on, and how many LINES it takes. */
         private final long[] best = new long[MOST_WEIGHED + 1];
@@ -1644,7 +1648,7 @@ public final class TypeRoom {
 
         /** Fewer LINES are weighed first, and more must be better. */
         private void weighPageFrom(int first) {
-            best[first] = Long.MAX_VALUE;
+            best[first] = WORST;
             startMeasuring();
             for (int end = first + 1; end <= floor.lineCount; end++) {
                 add(floor.lines[end - 1]);

@@ -1,6 +1,7 @@
 import java.io.IOException;
 import java.nio.file.Files;
 import java.nio.file.Path;
+import java.util.Set;
 import java.util.regex.Matcher;
 import java.util.regex.Pattern;
 
@@ -12,6 +13,8 @@ final class LanguageTest {
         "\\bSystem\\.(?!arraycopy\\b)", "\\bThread\\b", "\\bRandom\\b", "@", "\\bstatic\\s*\\{", "\"",
         "while\\s*\\(\\s*true\\s*\\)", "for\\s*\\(\\s*;\\s*;", "\\bString\\b", "\\bnew\\s+\\w+\\([^;]*\\)\\s*\\{",
     };
+    private static final Set<String> LIBRARY = Set.of("Math.max(", "Math.min(", "Integer.signum(", "Arrays.fill(",
+            "Arrays.copyOf(", "System.arraycopy(");
     private static final int MOST_LINES = 60, MOST_PARAMETERS = 7;
 
     public static void main(String[] args) throws IOException {
@@ -22,6 +25,7 @@ final class LanguageTest {
             Due.isTrue("left out: " + rule, !found.find());
         }
         imports(code);
+        library(code);
         statics(code);
         methods(code);
         for (int i = 0; i < code.length(); i++) {
@@ -34,6 +38,14 @@ final class LanguageTest {
         Matcher found = Pattern.compile("import ([^;]+);").matcher(code);
         while (found.find()) {
             Due.is("import " + found.group(1), found.group(1).compareTo("java.util.Arrays"), 0);
+        }
+    }
+
+    /** Of the library functions alone are listed, no constants. */
+    private static void library(String code) {
+        Matcher found = Pattern.compile("\\b(Integer|Long|Math|Arrays|System)\\.\\w+\\b\\(?").matcher(code);
+        while (found.find()) {
+            Due.isTrue(found.group() + " is of the library that is listed", LIBRARY.contains(found.group()));
         }
     }
 
